@@ -1,0 +1,80 @@
+/** What the tests share: they compare answers, print each wrong one, and end with exit code 1 if there was one. */
+final class Check {
+    interface Call {
+        void run();
+    }
+
+    private static int wrong = 0;
+    private static int looked = 0;
+
+    private Check() {
+    }
+
+    static void equal(String what, long got, long due) {
+        looked++;
+        if (got != due) {
+            report(what + " answered " + got + ", due is " + due);
+        }
+    }
+
+    static void equal(String what, double got, double due) {
+        looked++;
+        if (Double.compare(got, due) != 0) {
+            report(what + " answered " + got + ", due is " + due);
+        }
+    }
+
+    static void equal(String what, boolean got, boolean due) {
+        looked++;
+        if (got != due) {
+            report(what + " answered " + got + ", due is " + due);
+        }
+    }
+
+    static void equal(String what, String got, String due) {
+        looked++;
+        if (!got.equals(due)) {
+            report(what + " answered " + got + ", due is " + due);
+        }
+    }
+
+    /** The call must throw just this, and leave the harp as it was. */
+    static void refuses(String what, WedgeHarps harp, Class<? extends RuntimeException> due, Call call) {
+        long before = harp.digest();
+        equal(what, nameOfThrown(call), due.getSimpleName());
+        equal(what + ", digest behind it", harp.digest(), before);
+    }
+
+    static void outOfBounds(String what, WedgeHarps harp, Call call) {
+        refuses(what, harp, IndexOutOfBoundsException.class, call);
+    }
+
+    static void badArgument(String what, WedgeHarps harp, Call call) {
+        refuses(what, harp, IllegalArgumentException.class, call);
+    }
+
+    static void badState(String what, WedgeHarps harp, Call call) {
+        refuses(what, harp, IllegalStateException.class, call);
+    }
+
+    static void end(String test) {
+        System.out.println(test + ": " + looked + " answers looked at, " + wrong + " wrong");
+        if (wrong != 0 || looked == 0) {
+            System.exit(1);
+        }
+    }
+
+    private static String nameOfThrown(Call call) {
+        try {
+            call.run();
+        } catch (RuntimeException e) {
+            return e.getClass().getSimpleName();
+        }
+        return "nothing thrown";
+    }
+
+    private static void report(String text) {
+        wrong++;
+        System.out.println(text);
+    }
+}

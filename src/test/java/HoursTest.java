@@ -1,0 +1,216 @@
+/** Promises 11 and 12: how hours go, and what is counted. */
+final class HoursTest {
+    private HoursTest() {
+    }
+
+    public static void main(String[] args) {
+        calmHours();
+        tableByRemainder();
+        strainAndBreaking();
+        strainOfExactly100();
+        strainAtLeast0();
+        drift();
+        driftFrom50OfStrain();
+        driftIsHeld();
+        swelling();
+        toneAheadOfTheSwelling();
+        breakingIsToldInAll();
+        refused();
+        Check.end("HoursTest");
+    }
+
+    private static void calmHours() {
+        WedgeHarps harp = new WedgeHarps();
+        Check.equal("pass(1)", harp.pass(1), 0);
+        Check.equal("pass(200)", harp.pass(200), 0);
+        Check.equal("the hour", harp.count(0), 201);
+        for (int k = 0; k < 12; k++) {
+            Check.equal("tone of " + k + " behind calm hours", harp.string(k, 5), 300 + 20 * k);
+        }
+    }
+
+    private static void tableByRemainder() {
+        WedgeHarps harp = new WedgeHarps();
+        harp.setWeather(3, 20, 0);
+        harp.pass(3);
+        Check.equal("strain ahead of the hour 3", harp.string(0, 3), 0);
+        harp.pass(1);
+        Check.equal("strain behind the hour 3", harp.string(0, 3), 4);
+        harp.pass(11);
+        Check.equal("strain ahead of the hour 15", harp.string(0, 3), 0);
+        harp.pass(1);
+        Check.equal("strain behind the hour 15", harp.string(0, 3), 4);
+    }
+
+    /** Strains 16, 32, 48, 64; then 17 - 2 a hour, as the drift makes the tone less than 900. */
+    private static void strainAndBreaking() {
+        WedgeHarps harp = new WedgeHarps();
+        harp.draw(0, 900);
+        Scenes.steadyWeather(harp, 20, 0);
+        int[] strains = {16, 32, 48, 64, 79, 94};
+        int[] drifts = {0, 0, 0, -1, -2, -3};
+        for (int h = 0; h < strains.length; h++) {
+            Check.equal("breaks in hour " + h, harp.pass(1), 0);
+            Check.equal("strain behind hour " + h, harp.string(0, 3), strains[h]);
+            Check.equal("drift behind hour " + h, harp.string(0, 2), drifts[h]);
+        }
+        Check.equal("breaks in the seventh hour", harp.pass(1), 1);
+        int[] facts = {900, 0, 0, 0, 0, 0, 1};
+        for (int what = 0; what < 7; what++) {
+            Check.equal("broken: string(0, " + what + ")", harp.string(0, what), facts[what]);
+        }
+        Check.equal("whole strings", harp.count(1), 11);
+        Scenes.passIn(harp, 5, 20, 9);
+        Check.equal("strain of a broken string", harp.string(0, 3), 0);
+        Check.equal("drift of a broken string", harp.string(0, 2), 0);
+        Check.equal("a broken string breaks once", harp.string(0, 6), 1);
+    }
+
+    /** 22 an hour up to 88 (drift -2 then), and 12 or 13 more from a tone of 1218. */
+    private static void strainOfExactly100() {
+        WedgeHarps harp = Scenes.tight();
+        Scenes.passIn(harp, 4, 20, 0);
+        Check.equal("strain behind 4 hours", harp.string(5, 3), 88);
+        Check.equal("tone behind 4 hours", harp.string(5, 5), 1218);
+        Check.equal("breaks with 100", Scenes.passIn(harp, 1, 12, 0), 0);
+        Check.equal("strain of 100", harp.string(5, 3), 100);
+
+        WedgeHarps other = Scenes.tight();
+        Scenes.passIn(other, 4, 20, 0);
+        Check.equal("breaks with 101", Scenes.passIn(other, 1, 13, 0), 1);
+        Check.equal("strain of a broken string", other.string(5, 3), 0);
+    }
+
+    private static void strainAtLeast0() {
+        WedgeHarps harp = new WedgeHarps();
+        harp.draw(0, 100);
+        Scenes.passIn(harp, 1, 10, 0);
+        Check.equal("1 more and 2 less from 0", harp.string(0, 3), 0);
+        Scenes.passIn(harp, 1, 20, 0);
+        Check.equal("2 more and 2 less from 0", harp.string(0, 3), 0);
+        Check.equal("10 more and 2 less from 3", harp.string(11, 3), 3 + 8);
+        Scenes.passIn(harp, 5, 0, 0);
+        Check.equal("2 less an hour", harp.string(11, 3), 1);
+        harp.pass(1);
+        Check.equal("at least 0", harp.string(11, 3), 0);
+    }
+
+    private static void drift() {
+        WedgeHarps harp = new WedgeHarps();
+        Scenes.passIn(harp, 1, 0, 5);
+        Check.equal("drift with a damp of 5", harp.string(4, 2), 0);
+        Scenes.passIn(harp, 1, 0, 6);
+        Check.equal("drift with a damp of 6", harp.string(4, 2), 1);
+        Check.equal("tone with drift 1 and swelling 2", harp.string(4, 5), 379);
+        Scenes.passIn(harp, 1, 0, 9);
+        Check.equal("drift with a damp of 9", harp.string(4, 2), 2);
+        Scenes.passIn(harp, 3, 0, 0);
+        Check.equal("drift stays in dry hours", harp.string(4, 2), 2);
+    }
+
+    private static void driftFrom50OfStrain() {
+        WedgeHarps harp = Scenes.tight();
+        Scenes.passIn(harp, 2, 20, 0);
+        Scenes.passIn(harp, 1, 6, 0);
+        Check.equal("strain of 49", harp.string(5, 3), 49);
+        Check.equal("drift with it", harp.string(5, 2), 0);
+
+        WedgeHarps other = Scenes.tight();
+        Scenes.passIn(other, 2, 20, 0);
+        Scenes.passIn(other, 1, 7, 9);
+        Check.equal("strain of 50", other.string(5, 3), 50);
+        Check.equal("drift with it, though it is damp", other.string(5, 2), -1);
+        Check.equal("drift of a string with less", other.string(0, 2), 1);
+    }
+
+    /** With a wind of 2 the strain of a tone of 1000 to 1499 stays as it is. */
+    private static void driftIsHeld() {
+        WedgeHarps harp = Scenes.tight();
+        Scenes.passIn(harp, 4, 20, 0);
+        Scenes.passIn(harp, 47, 2, 0);
+        Check.equal("drift behind 49 strained hours", harp.string(5, 2), -49);
+        harp.pass(1);
+        Check.equal("drift behind 50 strained hours", harp.string(5, 2), -50);
+        harp.pass(1);
+        Check.equal("drift is at least -50", harp.string(5, 2), -50);
+
+        WedgeHarps damp = new WedgeHarps();
+        Scenes.passIn(damp, 50, 0, 6);
+        Check.equal("drift behind 50 damp hours", damp.string(0, 2), 50);
+        damp.pass(1);
+        Check.equal("drift is at most 50", damp.string(0, 2), 50);
+    }
+
+    private static void swelling() {
+        WedgeHarps harp = new WedgeHarps();
+        Scenes.passIn(harp, 1, 0, 4);
+        Check.equal("swelling is at least 0", harp.count(4), 0);
+        Scenes.passIn(harp, 29, 0, 5);
+        Check.equal("swelling behind 29 damp hours", harp.count(4), 29);
+        Check.equal("tone with it", harp.string(0, 5), 271);
+        harp.pass(1);
+        Check.equal("swelling behind 30 damp hours", harp.count(4), 30);
+        harp.pass(1);
+        Check.equal("swelling is at most 30", harp.count(4), 30);
+        Scenes.passIn(harp, 1, 0, 4);
+        Check.equal("swelling behind a dry hour", harp.count(4), 29);
+        harp.pass(28);
+        Check.equal("swelling behind 29 dry hours", harp.count(4), 1);
+    }
+
+    private static void toneAheadOfTheSwelling() {
+        WedgeHarps harp = new WedgeHarps();
+        Scenes.passIn(harp, 1, 10, 9);
+        Check.equal("strain by the tone 300", harp.string(0, 3), 1);
+        Check.equal("strain by the tone 400", harp.string(5, 3), 2);
+        Scenes.passIn(harp, 1, 0, 5);
+        Scenes.passIn(harp, 1, 10, 0);
+        Check.equal("strain by the tone 299", harp.string(0, 3), 0);
+        Check.equal("strain by the tone 399", harp.string(5, 3), 1);
+    }
+
+    private static void breakingIsToldInAll() {
+        WedgeHarps harp = new WedgeHarps();
+        harp.draw(2, 900);
+        harp.draw(8, 900);
+        for (int k = 9; k < 12; k++) {
+            harp.draw(k, 100);
+        }
+        harp.push(3, 2);
+        harp.push(8, 1);
+        harp.chord(0, 300, 320, 0, 0);
+        harp.chord(0, 300, 340, 0, 0);
+        Check.equal("chords", harp.count(2), 2);
+        Check.equal("chords that sound", harp.count(3), 1);
+        Check.equal("steps of all wedges", harp.count(5), 3);
+        Check.equal("breaks", Scenes.passIn(harp, 7, 20, 0), 2);
+        Check.equal("whole strings", harp.count(1), 10);
+        Check.equal("breaks in all", harp.count(7), 2);
+        Check.equal("steps of all wedges, broken strings' too", harp.count(5), 3);
+        Check.equal("strain of all strings", harp.count(6), strainOfAll(harp));
+        harp.draw(2, 900);
+        Check.equal("whole strings, one drawn anew", harp.count(1), 11);
+        Check.equal("breaks of 7 hours more", harp.pass(7) + harp.string(2, 6), 1 + 2);
+        Check.equal("breaks in all, one string twice", harp.count(7), 3);
+        Check.equal("the hour", harp.count(0), 14);
+    }
+
+    private static int strainOfAll(WedgeHarps harp) {
+        int sum = 0;
+        for (int k = 0; k < 12; k++) {
+            sum += harp.string(k, 3);
+        }
+        return sum;
+    }
+
+    private static void refused() {
+        WedgeHarps harp = new WedgeHarps();
+        Scenes.steadyWeather(harp, 10, 6);
+        for (int hours : new int[] {0, -1, 201, Integer.MIN_VALUE, Integer.MAX_VALUE}) {
+            Check.badArgument("pass(" + hours + ")", harp, () -> harp.pass(hours));
+        }
+        for (int what : new int[] {-1, 8, Integer.MIN_VALUE, Integer.MAX_VALUE}) {
+            Check.outOfBounds("count(" + what + ")", harp, () -> harp.count(what));
+        }
+    }
+}
