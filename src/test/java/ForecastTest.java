@@ -1,0 +1,246 @@
+/** Promises 13 to 18: what would be, the mean and the checksum. */
+final class ForecastTest {
+    private static final int LEAST = Integer.MIN_VALUE;
+    private static final int MOST = Integer.MAX_VALUE;
+    private static final long NEW_DIGEST = -1126338768747917825L;
+    private static final long TOLD_DIGEST = -4488278565543908632L;
+
+    private ForecastTest() {
+    }
+
+    public static void main(String[] args) {
+        bears();
+        bearsJust24Hours();
+        bearsInDamp();
+        bearsOfBroken();
+        first();
+        firstWithin200Hours();
+        firstOfBroken();
+        holds();
+        holdsAtMost200Hours();
+        holdsUntilItBreaks();
+        foresee();
+        foreseeBreaking();
+        mean();
+        digest();
+        nothingIsChanged();
+        refused();
+        Check.end("ForecastTest");
+    }
+
+    private static void bears() {
+        WedgeHarps harp = new WedgeHarps();
+        Check.equal("a tone of 300 bears any wind", harp.bears(0), 20);
+        Check.equal("a tone of 520 bears 6 - 2 an hour", harp.bears(11), 13);
+        Scenes.steadyWeather(harp, 20, 0);
+        Check.equal("whatever wind the table tells", harp.bears(11), 13);
+        WedgeHarps tight = Scenes.tight();
+        Check.equal("a tone of 1220 bears 6 - 2 an hour", tight.bears(5), 5);
+        Scenes.passIn(tight, 4, 20, 0);
+        Scenes.passIn(tight, 1, 12, 0);
+        Check.equal("a strain of 100 bears 2 - 2 an hour", tight.bears(5), 2);
+    }
+
+    /** From a strain of 4 to 100 in 24 hours; from one of 5 to 101, with a wind of 12 or 13. */
+    private static void bearsJust24Hours() {
+        WedgeHarps harp = new WedgeHarps();
+        Scenes.passIn(harp, 1, 12, 0);
+        Check.equal("strain", harp.string(11, 3), 4);
+        Check.equal("4 and 24 times 4", harp.bears(11), 13);
+        WedgeHarps other = new WedgeHarps();
+        Scenes.passIn(other, 1, 14, 0);
+        Check.equal("strain", other.string(11, 3), 5);
+        Check.equal("5 and 24 times 4", other.bears(11), 11);
+    }
+
+    /** The swelling brings the tone of 520 below 500, so that a wind of 12 strains it by 5 - 2 at last. */
+    private static void bearsInDamp() {
+        WedgeHarps harp = new WedgeHarps();
+        Scenes.passIn(harp, 1, 14, 0);
+        Scenes.steadyWeather(harp, 0, 5);
+        Check.equal("bears in damp", harp.bears(11), 12);
+    }
+
+    private static void bearsOfBroken() {
+        WedgeHarps harp = Scenes.broken(6);
+        Check.equal("a broken string", harp.bears(6), -1);
+        harp.draw(6, 420);
+        Check.equal("drawn anew", harp.bears(6), 16);
+    }
+
+    private static void first() {
+        WedgeHarps harp = new WedgeHarps();
+        Check.equal("none in calm", harp.first(), -1);
+        Scenes.steadyWeather(harp, 20, 0);
+        Check.equal("10 and 11 get strained alike, but 10 less behind 50", harp.first(), 11);
+        harp.draw(4, 800);
+        harp.draw(9, 900);
+        Check.equal("the first one, not the smallest", harp.first(), 9);
+        harp.draw(2, 900);
+        Check.equal("the smallest of two in an hour", harp.first(), 2);
+    }
+
+    /** The string 11 gets strained by 1 in each second hour, and breaks in the hour 201. */
+    private static WedgeHarps breakingInHour201() {
+        WedgeHarps harp = new WedgeHarps();
+        harp.draw(11, 900);
+        for (int hour = 0; hour < 12; hour++) {
+            harp.setWeather(hour, hour % 2 == 0 ? 4 : 3, 0);
+        }
+        return harp;
+    }
+
+    private static void firstWithin200Hours() {
+        WedgeHarps harp = breakingInHour201();
+        Check.equal("breaking in the hour 201", harp.first(), -1);
+        harp.pass(1);
+        Check.equal("breaking in the hour 200", harp.first(), 11);
+        Check.equal("breaks in 199 hours", harp.pass(199), 0);
+        Check.equal("breaking in the next hour", harp.first(), 11);
+        Check.equal("breaks in the next hour", harp.pass(1), 1);
+        Check.equal("broken already", harp.first(), -1);
+    }
+
+    private static void firstOfBroken() {
+        WedgeHarps harp = new WedgeHarps();
+        for (int k = 0; k < 12; k++) {
+            harp.draw(k, 900);
+        }
+        Check.equal("all break in an hour", Scenes.passIn(harp, 7, 20, 0), 12);
+        Check.equal("none is left", harp.first(), -1);
+        harp.draw(8, 900);
+        Check.equal("but one", harp.first(), 8);
+    }
+
+    private static void holds() {
+        WedgeHarps harp = new WedgeHarps();
+        harp.chord(0, 300, 320, 0, 0);
+        harp.chord(0, 294, 320, 0, 0);
+        harp.chord(3, 355, 375, 395, 0);
+        Check.equal("in calm", harp.holds(0), -1);
+        Check.equal("not sounding now", harp.holds(1), 0);
+        Scenes.steadyWeather(harp, 0, 5);
+        Check.equal("behind a swelling of 6", harp.holds(0), 6);
+        Check.equal("0, though it would sound later", harp.holds(1), 0);
+        Check.equal("behind a swelling of 11", harp.holds(2), 11);
+        harp.pass(5);
+        Check.equal("an hour left", harp.holds(0), 1);
+        harp.pass(1);
+        Check.equal("none left", harp.holds(0), 0);
+    }
+
+    /** Drift and swelling go by 2 in 12 hours, until the swelling is held; in the hour 201 the tone is 6 greater. */
+    private static void holdsAtMost200Hours() {
+        WedgeHarps harp = new WedgeHarps();
+        for (int hour = 0; hour < 12; hour++) {
+            harp.setWeather(hour, 0, hour < 5 ? 5 : hour < 10 ? 0 : 6);
+        }
+        harp.chord(0, 300, 320, 0, 0);
+        Check.equal("201 hours", harp.holds(0), -1);
+        harp.pass(1);
+        Check.equal("200 hours", harp.holds(0), 200);
+        harp.pass(199);
+        Check.equal("it sounds", harp.sounds(0), true);
+        harp.pass(1);
+        Check.equal("it does not any more", harp.sounds(0), false);
+    }
+
+    private static void holdsUntilItBreaks() {
+        WedgeHarps harp = new WedgeHarps();
+        harp.draw(6, 900);
+        harp.chord(5, 400, 900, 440, 0);
+        Scenes.steadyWeather(harp, 20, 0);
+        Check.equal("holds", harp.holds(0), 7);
+    }
+
+    private static void foresee() {
+        WedgeHarps harp = new WedgeHarps();
+        harp.push(3, 2);
+        Check.equal("in calm", harp.foresee(200, 4), 386);
+        Scenes.steadyWeather(harp, 0, 5);
+        Check.equal("behind an hour", harp.foresee(1, 4), 385);
+        Check.equal("behind 29 hours", harp.foresee(29, 4), 357);
+        Check.equal("behind 31 hours", harp.foresee(31, 4), 356);
+        Scenes.steadyWeather(harp, 0, 6);
+        Check.equal("drifting", harp.foresee(40, 4), 396);
+        harp.setWeather(0, 0, 0);
+        harp.pass(1);
+        Check.equal("from the hour 1 on", harp.foresee(11, 4), 386);
+        Check.equal("till behind the hour 12", harp.foresee(12, 4), 387);
+    }
+
+    private static void foreseeBreaking() {
+        WedgeHarps harp = breakingInHour201();
+        Check.equal("behind 200 hours", harp.foresee(200, 11), 850);
+        harp.pass(1);
+        Check.equal("behind 199 hours", harp.foresee(199, 11), 850);
+        Check.equal("broken behind 200 hours", harp.foresee(200, 11), 0);
+        harp.pass(200);
+        Check.equal("a broken string", harp.foresee(1, 11), 0);
+    }
+
+    private static void mean() {
+        WedgeHarps harp = new WedgeHarps();
+        Check.equal("mean of a new harp", harp.mean(), 410.0);
+        harp.push(0, 1);
+        Check.equal("mean with a push", harp.mean(), 4933.0 / 12);
+        WedgeHarps broken = Scenes.broken(6);
+        Check.equal("mean of 11, two of them drifted", broken.mean(), 4498.0 / 11);
+        for (int k = 0; k < 12; k++) {
+            broken.draw(k, 900);
+        }
+        Scenes.passIn(broken, 7, 20, 0);
+        Check.equal("mean of none", broken.mean(), 0.0);
+        broken.draw(3, 333);
+        Check.equal("mean of one", broken.mean(), 333.0);
+    }
+
+    /** The checksums are reckoned outside Java from the document's list of numbers. */
+    private static void digest() {
+        WedgeHarps harp = new WedgeHarps();
+        Check.equal("digest of a new harp", harp.digest(), NEW_DIGEST);
+        harp.setWeather(3, 20, 9);
+        harp.chord(10, 1, 1500, 0, 0);
+        harp.chord(0, 300, 320, 345, 0);
+        Check.equal("digest with chords and weather", harp.digest(), TOLD_DIGEST);
+        harp.setWeather(3, 0, 0);
+        Check.equal("digest with other weather", harp.digest() == TOLD_DIGEST, false);
+    }
+
+    private static void nothingIsChanged() {
+        WedgeHarps harp = Scenes.tight();
+        harp.chord(4, 640, 1220, 660, 0);
+        for (int hour = 0; hour < 12; hour++) {
+            harp.setWeather(hour, 20 - hour, hour % 10);
+        }
+        harp.pass(2);
+        long before = harp.digest();
+        harp.bears(5);
+        Check.equal("digest behind bears", harp.digest(), before);
+        Check.equal("first", harp.first(), 5);
+        Check.equal("digest behind first", harp.digest(), before);
+        harp.holds(0);
+        Check.equal("digest behind holds", harp.digest(), before);
+        harp.foresee(200, 5);
+        Check.equal("digest behind foresee", harp.digest(), before);
+        harp.mean();
+        Check.equal("digest behind mean", harp.digest(), before);
+        Check.equal("first again", harp.first(), 5);
+    }
+
+    private static void refused() {
+        WedgeHarps harp = new WedgeHarps();
+        harp.chord(0, 300, 320, 0, 0);
+        for (int string : new int[] {-1, 12, LEAST, MOST}) {
+            Check.outOfBounds("bears(" + string + ")", harp, () -> harp.bears(string));
+            Check.outOfBounds("foresee(1, " + string + ")", harp, () -> harp.foresee(1, string));
+            Check.badArgument("foresee(0, " + string + ")", harp, () -> harp.foresee(0, string));
+        }
+        for (int hours : new int[] {0, -1, 201, LEAST, MOST}) {
+            Check.badArgument("foresee(" + hours + ", 0)", harp, () -> harp.foresee(hours, 0));
+        }
+        for (int chord : new int[] {-1, 1, 5, 6, LEAST, MOST}) {
+            Check.outOfBounds("holds(" + chord + ")", harp, () -> harp.holds(chord));
+        }
+    }
+}
