@@ -38,25 +38,6 @@ final class Check {
         }
     }
 
-    /** The call must throw just this, and leave the harp as it was. */
-    static void refuses(String what, WedgeHarps harp, Class<? extends RuntimeException> due, Call call) {
-        long before = harp.digest();
-        equal(what, nameOfThrown(call), due.getSimpleName());
-        equal(what + ", digest behind it", harp.digest(), before);
-    }
-
-    static void outOfBounds(String what, WedgeHarps harp, Call call) {
-        refuses(what, harp, IndexOutOfBoundsException.class, call);
-    }
-
-    static void badArgument(String what, WedgeHarps harp, Call call) {
-        refuses(what, harp, IllegalArgumentException.class, call);
-    }
-
-    static void badState(String what, WedgeHarps harp, Call call) {
-        refuses(what, harp, IllegalStateException.class, call);
-    }
-
     static void end(String test) {
         System.out.println(test + ": " + looked + " answers looked at, " + wrong + " wrong");
         if (wrong != 0 || looked == 0) {
@@ -64,7 +45,8 @@ final class Check {
         }
     }
 
-    private static String nameOfThrown(Call call) {
+    /** The plain name, so that what the machine throws is told apart from what the document names. */
+    static String nameOfThrown(Call call) {
         try {
             call.run();
         } catch (RuntimeException e) {

@@ -1,23 +1,22 @@
 /** Promises 7 to 10: chords. */
 final class ChordsTest {
-    private static final int LEAST = Integer.MIN_VALUE;
-    private static final int MOST = Integer.MAX_VALUE;
-
     private ChordsTest() {
     }
 
     public static void main(String[] args) {
         chord();
-        chordRefused();
-        seventhChord();
         off();
         sounds();
+        soundsInEachPlace();
         brokenChord();
+        brokenInEachPlace();
         steps();
         stepsAtTheirReach();
+        stepsReachInEachPlace();
+        stepsOfAllWedges();
+        stepsKeepToTheWedgesEnds();
         stepsAtTheWedgesEnds();
         stepsOfTheChordAlone();
-        noSuchChord();
         Check.end("ChordsTest");
     }
 
@@ -33,40 +32,6 @@ final class ChordsTest {
         Check.equal("off(1)", harp.off(1), 1020 + 499 + 519);
         Check.equal("off(2)", harp.off(2), 459 + 479 + 1000 + 519);
         Check.equal("off(3)", harp.off(3), 299 + 319 + 339 + 1140);
-    }
-
-    private static void chordRefused() {
-        WedgeHarps harp = new WedgeHarps();
-        for (int first : new int[] {-1, 12, LEAST, MOST}) {
-            Check.outOfBounds("chord from " + first, harp, () -> harp.chord(first, 1, 1, 0, 0));
-            Check.outOfBounds("chord of no tones from " + first, harp, () -> harp.chord(first, 0, 0, 0, 1));
-        }
-        for (int tone : new int[] {-1, 1501, LEAST, MOST}) {
-            Check.badArgument("a " + tone, harp, () -> harp.chord(0, tone, 1, 1, 1));
-            Check.badArgument("b " + tone, harp, () -> harp.chord(0, 1, tone, 1, 1));
-            Check.badArgument("c " + tone, harp, () -> harp.chord(0, 1, 1, tone, 1));
-            Check.badArgument("d " + tone, harp, () -> harp.chord(0, 1, 1, 1, tone));
-            Check.badArgument("c " + tone + " without d", harp, () -> harp.chord(0, 1, 1, tone, 0));
-        }
-        Check.badArgument("a 0", harp, () -> harp.chord(0, 0, 1, 1, 1));
-        Check.badArgument("b 0", harp, () -> harp.chord(0, 1, 0, 1, 1));
-        Check.badArgument("d without c", harp, () -> harp.chord(0, 1, 1, 0, 1));
-        Check.badArgument("two tones from 11", harp, () -> harp.chord(11, 1, 1, 0, 0));
-        Check.badArgument("three tones from 10", harp, () -> harp.chord(10, 1, 1, 1, 0));
-        Check.badArgument("four tones from 9", harp, () -> harp.chord(9, 1, 1, 1, 1));
-        Check.equal("the first one behind the refused ones", harp.chord(0, 1, 1, 0, 0), 0);
-    }
-
-    private static void seventhChord() {
-        WedgeHarps harp = new WedgeHarps();
-        for (int i = 0; i < 6; i++) {
-            Check.equal("chord " + i, harp.chord(i, 300 + 20 * i, 320 + 20 * i, 0, 0), i);
-        }
-        Check.badState("a seventh chord", harp, () -> harp.chord(0, 300, 320, 0, 0));
-        Check.badArgument("a seventh chord of no tone", harp, () -> harp.chord(0, 0, 320, 0, 0));
-        Check.badArgument("a seventh chord past the strings", harp, () -> harp.chord(11, 300, 320, 0, 0));
-        Check.outOfBounds("a seventh chord from 12", harp, () -> harp.chord(12, 300, 320, 0, 0));
-        Check.equal("all of them sound", harp.count(3), 6);
     }
 
     private static void off() {
@@ -167,21 +132,122 @@ final class ChordsTest {
         Check.equal("pressed from above already", harp.steps(1), 0);
     }
 
-    private static void noSuchChord() {
+    /** "each one differs by at most 5": in each place of a chord, to either side. */
+    private static void soundsInEachPlace() {
+        for (int size = 2; size <= 4; size++) {
+            for (int place = 0; place < size; place++) {
+                for (int side = -1; side <= 1; side += 2) {
+                    int[] tones = Scenes.tonesFrom(new WedgeHarps(), 3, size);
+                    tones[place] += 5 * side;
+                    WedgeHarps harp = new WedgeHarps();
+                    Scenes.tell(harp, 3, tones);
+                    tones[place] += side;
+                    Scenes.tell(harp, 3, tones);
+                    String at = " in the place " + place + " of " + size + ", side " + side;
+                    Check.equal("sounds, 5 off" + at, harp.sounds(0), true);
+                    Check.equal("off by 5" + at, harp.off(0), 5);
+                    Check.equal("steps of 0" + at, harp.steps(0), 0);
+                    Check.equal("holds, 5 off" + at, harp.holds(0), -1);
+                    Check.equal("sounds, 6 off" + at, harp.sounds(1), false);
+                    Check.equal("off by 6" + at, harp.off(1), 6);
+                    Check.equal("holds, 6 off" + at, harp.holds(1), 0);
+                    Check.equal("chords that sound" + at, harp.count(3), 1);
+                }
+            }
+        }
+    }
+
+    /** "It sounds, if its strings are whole": a broken one differs by 5 or less from a tone of 1 to 5, but is not. */
+    private static void brokenInEachPlace() {
+        for (int place = 0; place < 4; place++) {
+            WedgeHarps harp = Scenes.broken(6);
+            int[] tones = Scenes.tonesFrom(harp, 6 - place, 4);
+            tones[place] = 1;
+            Scenes.tell(harp, 6 - place, tones);
+            tones[place] = 5;
+            Scenes.tell(harp, 6 - place, tones);
+            for (int chord = 0; chord < 2; chord++) {
+                String at = " with a broken string in the place " + place;
+                Check.equal("off" + at, harp.off(chord), tones[place] - 4 * (1 - chord));
+                Check.equal("sounds" + at, harp.sounds(chord), false);
+                Check.equal("steps" + at, harp.steps(chord), -1);
+                Check.equal("holds" + at, harp.holds(chord), 0);
+            }
+            Check.equal("chords that sound", harp.count(3), 0);
+        }
+        WedgeHarps harp = Scenes.broken(6);
+        Scenes.tell(harp, 2, Scenes.tonesFrom(harp, 2, 4));
+        Scenes.tell(harp, 7, Scenes.tonesFrom(harp, 7, 3));
+        Check.equal("chords beside a broken string sound", harp.count(3), 2);
+        Check.equal("and hold", harp.holds(0) + harp.holds(1), -2);
+    }
+
+    /** "each one by at most 4 steps to either side": in each place of a chord. */
+    private static void stepsReachInEachPlace() {
+        for (int size = 2; size <= 4; size++) {
+            for (int place = 0; place < size; place++) {
+                for (int side = -1; side <= 1; side += 2) {
+                    int[] fourAway = tonesPushed(size, place, 4 * side);
+                    int[] fiveAway = tonesPushed(size, place, 5 * side);
+                    WedgeHarps harp = allAt10();
+                    Scenes.tell(harp, 4, fourAway);
+                    Scenes.tell(harp, 4, fiveAway);
+                    String at = " steps under the place " + place + " of " + size + ", side " + side;
+                    Check.equal("4" + at, harp.steps(0), 4);
+                    Check.equal("5" + at, harp.steps(1), -1);
+                }
+            }
+        }
+    }
+
+    private static WedgeHarps allAt10() {
         WedgeHarps harp = new WedgeHarps();
-        Check.outOfBounds("off(0) of none", harp, () -> harp.off(0));
-        Check.outOfBounds("sounds(0) of none", harp, () -> harp.sounds(0));
-        Check.outOfBounds("steps(0) of none", harp, () -> harp.steps(0));
-        harp.chord(0, 300, 320, 0, 0);
-        for (int chord : new int[] {-1, 1, 5, 6, LEAST, MOST}) {
-            Check.outOfBounds("off(" + chord + ")", harp, () -> harp.off(chord));
-            Check.outOfBounds("sounds(" + chord + ")", harp, () -> harp.sounds(chord));
-            Check.outOfBounds("steps(" + chord + ")", harp, () -> harp.steps(chord));
+        for (int k = 0; k < 12; k++) {
+            harp.push(k, 10);
         }
-        for (int i = 1; i < 6; i++) {
-            harp.chord(0, 300, 320, 0, 0);
+        return harp;
+    }
+
+    private static int[] tonesPushed(int size, int place, int steps) {
+        WedgeHarps harp = allAt10();
+        harp.push(4 + place, steps);
+        return Scenes.tonesFrom(harp, 4, size);
+    }
+
+    /** Each of the four wedges by 4: 5 more on each tone need all of the 16 steps, 6 more are out of reach. */
+    private static void stepsOfAllWedges() {
+        for (int side = -1; side <= 1; side += 2) {
+            WedgeHarps pushed = allAt10();
+            for (int k = 4; k < 8; k++) {
+                pushed.push(k, 4 * side);
+            }
+            int[] tones = Scenes.tonesFrom(pushed, 4, 4);
+            WedgeHarps harp = allAt10();
+            for (int more = 5; more <= 6; more++) {
+                Scenes.tell(harp, 4, new int[] {tones[0] + more * side, tones[1] + more * side,
+                    tones[2] + more * side, tones[3] + more * side});
+            }
+            Check.equal("16 steps, side " + side, harp.steps(0), 16);
+            Check.equal("more than 16 steps, side " + side, harp.steps(1), -1);
         }
-        Check.outOfBounds("off(6) of six", harp, () -> harp.off(6));
-        Check.equal("off(5) of six", harp.off(5), 0);
+    }
+
+    /** "to 0 to 20": 4 steps back lead from 4 to 0, but not from 3 to below 0; 4 forth from 16 to 20. */
+    private static void stepsKeepToTheWedgesEnds() {
+        int[][] cases = {{4, -4, 4}, {3, -4, -1}, {3, -3, 3}, {16, 4, 4}, {17, 4, -1}, {17, 3, 3}, {20, 0, 0}};
+        for (int place = 0; place < 4; place++) {
+            for (int[] one : cases) {
+                WedgeHarps harp = new WedgeHarps();
+                harp.push(4 + place, one[0]);
+                int[] tones = Scenes.tonesFrom(harp, 4, 4);
+                for (int i = 0; i < 4; i++) {
+                    int apart = Math.abs(i - place);
+                    tones[i] += apart == 0 ? 10 * one[1] : apart == 1 ? 3 * one[1] : 0;
+                }
+                Scenes.tell(harp, 4, tones);
+                String call = one[1] + " steps from " + one[0] + " in the place " + place;
+                Check.equal(call, harp.steps(0), one[2]);
+            }
+        }
     }
 }

@@ -1,7 +1,8 @@
+import java.math.BigInteger;
+import java.util.Arrays;
+
 /** Promises 13 to 18: what would be, the mean and the checksum. */
 final class ForecastTest {
-    private static final int LEAST = Integer.MIN_VALUE;
-    private static final int MOST = Integer.MAX_VALUE;
     private static final long NEW_DIGEST = -1126338768747917825L;
     private static final long TOLD_DIGEST = -4488278565543908632L;
 
@@ -12,19 +13,24 @@ final class ForecastTest {
         bears();
         bearsJust24Hours();
         bearsInDamp();
+        bearsByTheHoursDamp();
+        bearsAtItsEnds();
         bearsOfBroken();
         first();
         firstWithin200Hours();
         firstOfBroken();
+        firstOfAll();
         holds();
         holdsAtMost200Hours();
         holdsUntilItBreaks();
+        holdsBesideABreakingString();
         foresee();
         foreseeBreaking();
+        foreseeTheHourOfBreaking();
         mean();
         digest();
+        digestWrapsAround();
         nothingIsChanged();
-        refused();
         Check.end("ForecastTest");
     }
 
@@ -228,19 +234,144 @@ final class ForecastTest {
         Check.equal("first again", harp.first(), 5);
     }
 
-    private static void refused() {
+    /** "the damp as the table tells it": that of the hours from now on, the hour 3, and not of those from 0 on. */
+    private static void bearsByTheHoursDamp() {
+        WedgeHarps harp = strainedInHour3(432);
+        Check.equal("dry in all hours", harp.bears(11), 13);
+        for (int hour = 0; hour < 3; hour++) {
+            harp.setWeather(hour, 20, 5);
+        }
+        Check.equal("damp in the hours 12 to 14 and 24 to 26", harp.bears(11), 14);
+        WedgeHarps other = strainedInHour3(430);
+        Check.equal("dry in all hours", other.bears(11), 14);
+        for (int hour = 0; hour < 8; hour++) {
+            other.setWeather(hour, 20, 6);
+        }
+        Check.equal("damp in all hours, but for 8 to 11 and 20 to 23", other.bears(11), 13);
+    }
+
+    private static WedgeHarps strainedInHour3(int base) {
         WedgeHarps harp = new WedgeHarps();
-        harp.chord(0, 300, 320, 0, 0);
-        for (int string : new int[] {-1, 12, LEAST, MOST}) {
-            Check.outOfBounds("bears(" + string + ")", harp, () -> harp.bears(string));
-            Check.outOfBounds("foresee(1, " + string + ")", harp, () -> harp.foresee(1, string));
-            Check.badArgument("foresee(0, " + string + ")", harp, () -> harp.foresee(0, string));
+        harp.draw(11, base);
+        Scenes.passIn(harp, 3, 20, 0);
+        Check.equal("strain of the base " + base, harp.string(11, 3), 18);
+        return harp;
+    }
+
+    /** "The greatest wind, 0 to 20": 20 for all whom no wind breaks, -1 for a broken one (calm breaks none). */
+    private static void bearsAtItsEnds() {
+        WedgeHarps harp = new WedgeHarps();
+        harp.draw(3, 300);
+        harp.draw(4, 349);
+        harp.draw(5, 350);
+        Check.equal("96 more in 24 hours", harp.bears(3), 20);
+        Check.equal("4 more in each of 24 hours", harp.bears(4), 20);
+        Check.equal("5 more in each hour", harp.bears(5), 19);
+        WedgeHarps none = Scenes.allBroken();
+        for (int k = 0; k < 12; k++) {
+            Check.equal("broken string " + k, none.bears(k), -1);
         }
-        for (int hours : new int[] {0, -1, 201, LEAST, MOST}) {
-            Check.badArgument("foresee(" + hours + ", 0)", harp, () -> harp.foresee(hours, 0));
+    }
+
+    /** "of several in the same hour the one with the smallest number": 0, where all break; 10, where the last two do. */
+    private static void firstOfAll() {
+        WedgeHarps harp = new WedgeHarps();
+        for (int k = 0; k < 12; k++) {
+            harp.draw(k, 900);
         }
-        for (int chord : new int[] {-1, 1, 5, 6, LEAST, MOST}) {
-            Check.outOfBounds("holds(" + chord + ")", harp, () -> harp.holds(chord));
+        Scenes.steadyWeather(harp, 20, 0);
+        Check.equal("all of them", harp.first(), 0);
+        harp.pass(6);
+        Check.equal("all of them, in the next hour", harp.first(), 0);
+        harp.draw(0, 300);
+        Check.equal("all but the string 0", harp.first(), 1);
+        for (int k = 1; k < 10; k++) {
+            harp.draw(k, 100);
         }
+        Check.equal("the last two", harp.first(), 10);
+        harp.draw(10, 100);
+        Check.equal("the last one", harp.first(), 11);
+        harp.draw(11, 100);
+        Check.equal("none of these, but the string 0 later on", harp.first(), 0);
+    }
+
+    /** "behind how many hours it does not sound for the first time": a string beside the chord may break before. */
+    private static void holdsBesideABreakingString() {
+        WedgeHarps harp = new WedgeHarps();
+        harp.draw(4, 900);
+        harp.draw(3, 140);
+        harp.draw(2, 100);
+        harp.chord(2, 100, 140, 0, 0);
+        harp.chord(3, 140, 900, 0, 0);
+        Scenes.steadyWeather(harp, 20, 0);
+        Check.equal("beside it", harp.holds(0), -1);
+        Check.equal("with it", harp.holds(1), 7);
+        Check.equal("it breaks behind 7 hours", harp.pass(6) * 100 + harp.pass(1), 1);
+        Check.equal("beside the broken one", harp.holds(0), -1);
+        Check.equal("with the broken one", harp.holds(1), 0);
+    }
+
+    /** "its tone behind so many hours": 0 from the hour on in which it breaks. */
+    private static void foreseeTheHourOfBreaking() {
+        WedgeHarps harp = new WedgeHarps();
+        harp.draw(0, 900);
+        Scenes.steadyWeather(harp, 20, 0);
+        Check.equal("behind 1 hour", harp.foresee(1, 0), 900);
+        Check.equal("behind 6 hours", harp.foresee(6, 0), 897);
+        Check.equal("behind 7 hours", harp.foresee(7, 0), 0);
+        Check.equal("behind 200 hours", harp.foresee(200, 0), 0);
+        harp.pass(6);
+        Check.equal("its tone", harp.string(0, 5), 897);
+        Check.equal("behind the next hour", harp.foresee(1, 0), 0);
+    }
+
+    /** "which wraps around as a 64-bit integer": reckoned without an end, and cut to 64 bits then. */
+    private static void digestWrapsAround() {
+        digestOf(new WedgeHarps(), new int[0][], new int[12]);
+        int[] weather = new int[12];
+        for (int hour = 0; hour < 12; hour++) {
+            weather[hour] = 10 * (11 - hour) + (5 * hour + 2) % 10;
+        }
+        WedgeHarps lively = Scenes.lively();
+        int a = lively.string(8, 5);
+        int b = lively.string(9, 5) - 5;
+        digestOf(lively, new int[][] {{0, 290, 400, 500}, {5, 300, 3, 1500, 1}, {8, a, b}}, weather);
+        digestOf(Scenes.livelyAndFull(), new int[][] {{0, 290, 400, 500}, {5, 300, 3, 1500, 1}, {8, a, b},
+            {0, 300, 400}, {10, 500, 700}, {3, 300, 1, 1, 1500}}, weather);
+        WedgeHarps strained = Scenes.tight();
+        Scenes.passIn(strained, 20, 5, 0);
+        Scenes.steadyWeather(strained, 0, 9);
+        Check.equal("a drift of less than 0", strained.string(5, 2) < 0, true);
+        Arrays.fill(weather, 9);
+        digestOf(strained, new int[0][], weather);
+    }
+
+    /** Each chord is a row of its first string and its tones. */
+    private static void digestOf(WedgeHarps harp, int[][] chords, int[] weather) {
+        BigInteger d = BigInteger.valueOf(947);
+        for (int what = 0; what < 8; what++) {
+            d = longer(d, harp.count(what));
+        }
+        for (int k = 0; k < 12; k++) {
+            for (int what = 0; what < 7; what++) {
+                d = longer(d, harp.string(k, what));
+            }
+        }
+        for (int at : weather) {
+            d = longer(d, at);
+        }
+        for (int i = 0; i < chords.length; i++) {
+            d = longer(longer(d, chords[i][0]), chords[i].length - 1);
+            for (int place = 1; place < chords[i].length; place++) {
+                d = longer(d, chords[i][place]);
+            }
+            d = longer(d, harp.off(i));
+        }
+        Check.equal("more than 64 bits", d.bitLength() > 64, true);
+        Check.equal("digest of " + chords.length + " chords", harp.digest(), d.longValue());
+    }
+
+    private static BigInteger longer(BigInteger d, int x) {
+        return d.multiply(BigInteger.valueOf(31)).add(BigInteger.valueOf(x));
     }
 }

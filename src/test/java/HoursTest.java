@@ -6,16 +6,24 @@ final class HoursTest {
     public static void main(String[] args) {
         calmHours();
         tableByRemainder();
+        tableGoesRound();
         strainAndBreaking();
         strainOfExactly100();
+        strainIsCutTowards0();
+        brokenInDamp();
         strainAtLeast0();
+        strainOf1To3InCalm();
         drift();
         driftFrom50OfStrain();
         driftIsHeld();
+        driftLeavesItsEnds();
         swelling();
+        swellingFrom5OfDamp();
         toneAheadOfTheSwelling();
+        toneAheadOfTheDrift();
+        countsAtTheirEnds();
+        hoursWithoutStrings();
         breakingIsToldInAll();
-        refused();
         Check.end("HoursTest");
     }
 
@@ -203,14 +211,167 @@ final class HoursTest {
         return sum;
     }
 
-    private static void refused() {
+    /** "the hour by the remainder of 12": 11 is the last one of the table, and behind it comes the first one again. */
+    private static void tableGoesRound() {
         WedgeHarps harp = new WedgeHarps();
-        Scenes.steadyWeather(harp, 10, 6);
-        for (int hours : new int[] {0, -1, 201, Integer.MIN_VALUE, Integer.MAX_VALUE}) {
-            Check.badArgument("pass(" + hours + ")", harp, () -> harp.pass(hours));
+        harp.setWeather(0, 20, 0);
+        harp.setWeather(11, 10, 0);
+        harp.pass(1);
+        Check.equal("strain behind the hour 0", harp.string(11, 3), 8);
+        harp.pass(10);
+        Check.equal("strain ahead of the hour 11", harp.string(11, 3), 0);
+        harp.pass(1);
+        Check.equal("strain behind the hour 11", harp.string(11, 3), 3);
+        harp.pass(1);
+        Check.equal("strain behind the hour 12", harp.string(11, 3), 11);
+        harp.pass(187);
+        for (int i = 0; i < 5; i++) {
+            harp.pass(200);
         }
-        for (int what : new int[] {-1, 8, Integer.MIN_VALUE, Integer.MAX_VALUE}) {
-            Check.outOfBounds("count(" + what + ")", harp, () -> harp.count(what));
+        Check.equal("a late hour", harp.count(0), 1200);
+        Check.equal("strain behind the hour 1199", harp.string(11, 3), 3);
+        harp.pass(1);
+        Check.equal("strain behind the hour 1200", harp.string(11, 3), 11);
+        harp.pass(1);
+        Check.equal("strain behind the hour 1201", harp.string(11, 3), 9);
+    }
+
+    /** "wind * tone / 1000", cut towards 0: on both sides of whole numbers. */
+    private static void strainIsCutTowards0() {
+        int[][] cases = {{499, 20, 7}, {500, 20, 8}, {550, 20, 9}, {549, 20, 8}, {333, 9, 0}, {334, 9, 1}};
+        for (int[] one : cases) {
+            WedgeHarps harp = new WedgeHarps();
+            harp.draw(5, one[0]);
+            Scenes.passIn(harp, 1, one[1], 0);
+            Check.equal("strain of a tone of " + one[0] + " in a wind of " + one[1], harp.string(5, 3), one[2]);
         }
+        WedgeHarps harp = new WedgeHarps();
+        harp.push(5, 10);
+        harp.draw(5, 899);
+        Scenes.passIn(harp, 1, 9, 0);
+        Check.equal("strain of a tone of 999 in a wind of 9", harp.string(5, 3), 6);
+        harp.draw(5, 900);
+        harp.pass(1);
+        Check.equal("strain of a tone of 1000 in a wind of 9", harp.string(5, 3), 7);
+    }
+
+    /** "its strain and drift are 0 then": also in an hour that is damp enough for drift, behind drift to either side. */
+    private static void brokenInDamp() {
+        WedgeHarps harp = new WedgeHarps();
+        harp.draw(0, 900);
+        Scenes.passIn(harp, 3, 0, 9);
+        Check.equal("breaks in six hours", Scenes.passIn(harp, 6, 20, 9), 0);
+        Check.equal("drift behind them", harp.string(0, 2), 3);
+        Check.equal("breaks in the seventh", harp.pass(1), 1);
+        Check.equal("drift of the broken string", harp.string(0, 2), 0);
+        Check.equal("strain of the broken string", harp.string(0, 3), 0);
+        Check.equal("drift of a whole one", harp.string(1, 2), 10);
+        harp.pass(3);
+        Check.equal("drift of the broken string, damp hours on", harp.string(0, 2), 0);
+        Check.equal("strain of the broken string, windy hours on", harp.string(0, 3), 0);
+        Check.equal("breaks of the broken string", harp.string(0, 6), 1);
+    }
+
+    /** "and then 2 less (at least 0)". */
+    private static void strainOf1To3InCalm() {
+        int[][] cases = {{6, 1, 0}, {8, 2, 0}, {10, 3, 1}};
+        for (int[] one : cases) {
+            WedgeHarps harp = new WedgeHarps();
+            Scenes.passIn(harp, 1, one[0], 0);
+            Check.equal("strain behind a wind of " + one[0], harp.string(11, 3), one[1]);
+            Scenes.passIn(harp, 1, 0, 0);
+            Check.equal("strain behind calm", harp.string(11, 3), one[2]);
+        }
+    }
+
+    /** "it is held at -50 to 50": held, it goes back by one as from any other number. */
+    private static void driftLeavesItsEnds() {
+        WedgeHarps harp = Scenes.tight();
+        Scenes.passIn(harp, 60, 0, 6);
+        Check.equal("drift behind 60 damp hours", harp.string(5, 2), 50);
+        Scenes.passIn(harp, 2, 20, 0);
+        Check.equal("strain of less than 50", harp.string(5, 3), 44);
+        Check.equal("drift with it", harp.string(5, 2), 50);
+        harp.pass(1);
+        Check.equal("strain of more than 50", harp.string(5, 3), 66);
+        Check.equal("drift with it", harp.string(5, 2), 49);
+
+        WedgeHarps other = Scenes.tight();
+        Scenes.passIn(other, 4, 20, 0);
+        Scenes.passIn(other, 60, 2, 0);
+        Check.equal("drift behind 62 strained hours", other.string(5, 2), -50);
+        Check.equal("strain behind them", other.string(5, 3), 88);
+        Scenes.passIn(other, 19, 0, 6);
+        Check.equal("strain of 50", other.string(5, 3), 50);
+        Check.equal("drift with it", other.string(5, 2), -50);
+        other.pass(1);
+        Check.equal("strain of 48", other.string(5, 3), 48);
+        Check.equal("drift with it", other.string(5, 2), -49);
+    }
+
+    /** "1 more with a damp of 5 or more, otherwise 1 less", by the table's hours. */
+    private static void swellingFrom5OfDamp() {
+        WedgeHarps harp = new WedgeHarps();
+        int[] damps = {4, 5, 6, 9, 4, 0, 5, 3, 1, 0, 2, 9};
+        int[] swellings = {0, 1, 2, 3, 2, 1, 2, 1, 0, 0, 0, 1};
+        int[] drifts = {0, 0, 1, 2, 2, 2, 2, 2, 2, 2, 2, 3};
+        for (int hour = 0; hour < 12; hour++) {
+            harp.setWeather(hour, 0, damps[hour]);
+        }
+        for (int hour = 0; hour < 12; hour++) {
+            harp.pass(1);
+            Check.equal("swelling behind the hour " + hour, harp.count(4), swellings[hour]);
+            Check.equal("drift behind the hour " + hour, harp.string(0, 2), drifts[hour]);
+            Check.equal("tone behind the hour " + hour, harp.string(0, 5), 300 + drifts[hour] - swellings[hour]);
+        }
+    }
+
+    /** "with its tone ahead of this step": 349 strains by 6, and 350, which it has behind the second step, by 7. */
+    private static void toneAheadOfTheDrift() {
+        WedgeHarps harp = new WedgeHarps();
+        harp.draw(0, 349);
+        harp.draw(1, 350);
+        Scenes.passIn(harp, 1, 20, 6);
+        Check.equal("strain by the tone 349", harp.string(0, 3), 4);
+        Check.equal("strain by the tone 350", harp.string(1, 3), 5);
+        Check.equal("tone behind drift and swelling", harp.string(0, 5), 349);
+        WedgeHarps swelling = new WedgeHarps();
+        swelling.draw(1, 350);
+        Scenes.passIn(swelling, 1, 20, 5);
+        Check.equal("strain by the tone 350, ahead of the swelling", swelling.string(1, 3), 5);
+        Check.equal("tone behind the swelling", swelling.string(1, 5), 349);
+    }
+
+    private static void countsAtTheirEnds() {
+        WedgeHarps harp = new WedgeHarps();
+        Check.equal("steps of all wedges, the fewest", harp.count(5), 0);
+        for (int i = 0; i < 6; i++) {
+            Scenes.tell(harp, i, Scenes.tonesFrom(harp, i, 2));
+            Check.equal("chords", harp.count(2), i + 1);
+            Check.equal("chords that sound", harp.count(3), i + 1);
+        }
+        for (int k = 0; k < 12; k++) {
+            harp.push(k, 20);
+        }
+        Check.equal("steps of all wedges, the most", harp.count(5), 240);
+        Check.equal("chords, the most", harp.count(2), 6);
+        Check.equal("chords that sound, none", harp.count(3), 0);
+    }
+
+    private static void hoursWithoutStrings() {
+        WedgeHarps harp = new WedgeHarps();
+        for (int k = 0; k < 12; k++) {
+            harp.draw(k, 900);
+        }
+        Check.equal("none break in six hours", Scenes.passIn(harp, 6, 20, 0), 0);
+        Check.equal("whole strings", harp.count(1), 12);
+        Check.equal("all break in the seventh", harp.pass(1), 12);
+        Check.equal("whole strings", harp.count(1), 0);
+        Check.equal("strain of all strings", harp.count(6), 0);
+        Check.equal("strings that broke in all", harp.count(7), 12);
+        Check.equal("none is left to break", Scenes.passIn(harp, 200, 20, 9), 0);
+        Check.equal("strings that broke in all", harp.count(7), 12);
+        Check.equal("the hour", harp.count(0), 207);
+        Check.equal("the swelling", harp.count(4), 30);
     }
 }

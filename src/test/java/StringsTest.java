@@ -1,8 +1,5 @@
 /** Promises 1 to 6: a new harp, its strings and its weather. */
 final class StringsTest {
-    private static final int LEAST = Integer.MIN_VALUE;
-    private static final int MOST = Integer.MAX_VALUE;
-
     private StringsTest() {
     }
 
@@ -10,18 +7,17 @@ final class StringsTest {
         newHarp();
         harpsShareNothing();
         push();
+        pushAtTheEnds();
+        toneOfAll();
         pushOfBroken();
-        pushRefused();
+        pressedByBroken();
         draw();
         drawOfBroken();
-        drawRefused();
         setWeather();
-        setWeatherRefused();
         string();
-        stringRefused();
         moves();
+        movesAtTheEnds();
         movesOfBroken();
-        movesRefused();
         Check.end("StringsTest");
     }
 
@@ -41,7 +37,6 @@ final class StringsTest {
         for (int hour = 0; hour < 12; hour++) {
             Check.equal("new: weather of " + hour, harp.setWeather(hour, 0, 0), 0);
         }
-        Check.outOfBounds("new: off(0)", harp, () -> harp.off(0));
     }
 
     private static void harpsShareNothing() {
@@ -77,22 +72,6 @@ final class StringsTest {
         Check.equal("its neighbour above", harp.string(7, 5), 446);
     }
 
-    private static void pushRefused() {
-        WedgeHarps harp = new WedgeHarps();
-        for (int string : new int[] {-1, 12, LEAST, MOST}) {
-            Check.outOfBounds("push(" + string + ", 1)", harp, () -> harp.push(string, 1));
-            Check.outOfBounds("push(" + string + ", 0)", harp, () -> harp.push(string, 0));
-        }
-        for (int steps : new int[] {0, 21, -21, LEAST, MOST}) {
-            Check.badArgument("push(0, " + steps + ")", harp, () -> harp.push(0, steps));
-        }
-        Check.badState("push below 0", harp, () -> harp.push(0, -1));
-        harp.push(0, 1);
-        Check.badState("push above 20", harp, () -> harp.push(0, 20));
-        Check.badState("push below 0 by 2", harp, () -> harp.push(0, -2));
-        Check.badArgument("push by 21 from 1", harp, () -> harp.push(0, 21));
-    }
-
     private static void draw() {
         WedgeHarps harp = new WedgeHarps();
         harp.push(2, 3);
@@ -119,17 +98,6 @@ final class StringsTest {
         Check.equal("how often it broke", harp.string(6, 6), 1);
     }
 
-    private static void drawRefused() {
-        WedgeHarps harp = new WedgeHarps();
-        for (int string : new int[] {-1, 12, LEAST, MOST}) {
-            Check.outOfBounds("draw(" + string + ", 300)", harp, () -> harp.draw(string, 300));
-            Check.outOfBounds("draw(" + string + ", 99)", harp, () -> harp.draw(string, 99));
-        }
-        for (int base : new int[] {99, 901, 0, LEAST, MOST}) {
-            Check.badArgument("draw(0, " + base + ")", harp, () -> harp.draw(0, base));
-        }
-    }
-
     private static void setWeather() {
         WedgeHarps harp = new WedgeHarps();
         Check.equal("first weather", harp.setWeather(0, 20, 9), 0);
@@ -138,20 +106,6 @@ final class StringsTest {
         Check.equal("weather of 11", harp.setWeather(11, 1, 0), 0);
         Check.equal("weather of 11 before", harp.setWeather(11, 0, 1), 10);
         Check.equal("weather of 10 is untouched", harp.setWeather(10, 0, 0), 0);
-    }
-
-    private static void setWeatherRefused() {
-        WedgeHarps harp = new WedgeHarps();
-        for (int hour : new int[] {-1, 12, LEAST, MOST}) {
-            Check.outOfBounds("setWeather(" + hour + ", 1, 1)", harp, () -> harp.setWeather(hour, 1, 1));
-            Check.outOfBounds("setWeather(" + hour + ", 21, 10)", harp, () -> harp.setWeather(hour, 21, 10));
-        }
-        for (int wind : new int[] {-1, 21, LEAST, MOST}) {
-            Check.badArgument("setWeather(0, " + wind + ", 1)", harp, () -> harp.setWeather(0, wind, 1));
-        }
-        for (int damp : new int[] {-1, 10, LEAST, MOST}) {
-            Check.badArgument("setWeather(0, 1, " + damp + ")", harp, () -> harp.setWeather(0, 1, damp));
-        }
     }
 
     private static void string() {
@@ -170,16 +124,6 @@ final class StringsTest {
         other.draw(7, 900);
         Scenes.passIn(other, 7, 20, 0);
         Check.equal("how often it broke behind a second time", other.string(7, 6), 2);
-    }
-
-    private static void stringRefused() {
-        WedgeHarps harp = new WedgeHarps();
-        for (int string : new int[] {-1, 12, LEAST, MOST}) {
-            Check.outOfBounds("string(" + string + ", 0)", harp, () -> harp.string(string, 0));
-        }
-        for (int what : new int[] {-1, 7, LEAST, MOST}) {
-            Check.outOfBounds("string(0, " + what + ")", harp, () -> harp.string(0, what));
-        }
     }
 
     private static void moves() {
@@ -204,17 +148,64 @@ final class StringsTest {
         Check.equal("a neighbour by a broken string", harp.moves(6, 5, 5), 15);
     }
 
-    private static void movesRefused() {
+    /** "the neighbours of the string k are k - 1 and k + 1, as far as there are such". */
+    private static void pushAtTheEnds() {
         WedgeHarps harp = new WedgeHarps();
-        for (int string : new int[] {-1, 12, LEAST, MOST}) {
-            Check.outOfBounds("moves(" + string + ", 1, 0)", harp, () -> harp.moves(string, 1, 0));
-            Check.outOfBounds("moves(0, 1, " + string + ")", harp, () -> harp.moves(0, 1, string));
-            Check.outOfBounds("moves(0, 21, " + string + ")", harp, () -> harp.moves(0, 21, string));
+        Check.equal("push(0, 1)", harp.push(0, 1), 310);
+        Check.equal("the string 1", harp.string(1, 5), 323);
+        Check.equal("the string 11 is no neighbour of 0", harp.string(11, 5), 520);
+        Check.equal("push(11, 1)", harp.push(11, 1), 530);
+        Check.equal("the string 10", harp.string(10, 5), 503);
+        Check.equal("the string 0 is no neighbour of 11", harp.string(0, 5), 310);
+        Check.equal("push(1, 2), pressed by 1", harp.push(1, 2), 343);
+        Check.equal("the string 0, pressed by 2", harp.string(0, 5), 316);
+    }
+
+    /** "its base, 10 for each step of its wedge, 3 for each step of the wedges of its neighbours", at most. */
+    private static void toneOfAll() {
+        WedgeHarps harp = new WedgeHarps();
+        for (int k = 0; k < 12; k++) {
+            harp.push(k, 20);
         }
-        for (int steps : new int[] {-21, 21, LEAST, MOST}) {
-            Check.badArgument("moves(0, " + steps + ", 0)", harp, () -> harp.moves(0, steps, 0));
+        for (int k = 0; k < 12; k++) {
+            int pressed = k == 0 || k == 11 ? 60 : 120;
+            Check.equal("tone of " + k + " with all wedges at 20", harp.string(k, 5), 500 + 20 * k + pressed);
         }
-        WedgeHarps broken = Scenes.broken(6);
-        Check.badArgument("moves(0, 21, 6), 6 broken", broken, () -> broken.moves(0, 21, 6));
+        Scenes.passIn(harp, 35, 0, 9);
+        Check.equal("with a drift of 35, and a swelling of 30", harp.string(3, 5), 560 + 120 + 35 - 30);
+    }
+
+    /** "3 for each step of the wedges of its neighbours (also of broken ones)". */
+    private static void pressedByBroken() {
+        WedgeHarps harp = new WedgeHarps();
+        harp.push(4, 1);
+        harp.draw(4, 900);
+        harp.draw(6, 900);
+        Check.equal("two strings break", Scenes.passIn(harp, 7, 20, 0), 2);
+        Check.equal("between two broken ones, with a wedge", harp.string(5, 5), 403);
+        harp.push(6, 20);
+        Check.equal("between two broken ones, with two wedges", harp.string(5, 5), 463);
+        harp.push(4, -1);
+        Check.equal("one of them drawn back", harp.string(5, 5), 460);
+        Check.equal("a broken one between wedges", harp.string(4, 5), 0);
+        Check.equal("steps of all wedges", harp.count(5), 20);
+        Check.equal("drawn anew, the wedge stays", harp.draw(6, 500), 700);
+    }
+
+    /** "by how much the tone of the other one would be greater ..., wherever it is then": also past 0 and 20. */
+    private static void movesAtTheEnds() {
+        WedgeHarps harp = new WedgeHarps();
+        harp.push(4, 20);
+        Check.equal("moves(4, 20, 4), the wedge at 20", harp.moves(4, 20, 4), 200);
+        Check.equal("moves(4, 20, 5), the wedge at 20", harp.moves(4, 20, 5), 60);
+        Check.equal("moves(4, -20, 3), the wedge at 20", harp.moves(4, -20, 3), -60);
+        Check.equal("moves(5, -1, 5), the wedge at 0", harp.moves(5, -1, 5), -10);
+        Check.equal("moves(0, 1, 1)", harp.moves(0, 1, 1), 3);
+        Check.equal("moves(0, 1, 11), no neighbours", harp.moves(0, 1, 11), 0);
+        Check.equal("moves(11, 1, 0), no neighbours", harp.moves(11, 1, 0), 0);
+        Check.equal("moves(11, -1, 10)", harp.moves(11, -1, 10), -3);
+        Check.equal("moves(11, -20, 11)", harp.moves(11, -20, 11), -200);
+        Check.equal("moves(2, 20, 4), two apart", harp.moves(2, 20, 4), 0);
+        Check.equal("moves(4, 20, 2), two apart", harp.moves(4, 20, 2), 0);
     }
 }
