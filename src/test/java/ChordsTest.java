@@ -20,6 +20,7 @@ final class ChordsTest {
         Check.end("ChordsTest");
     }
 
+    /** "a row of 2 to 4 tones, 1 to 1500 each, for as many strings side by side", up to the last string. */
     private static void chord() {
         WedgeHarps harp = new WedgeHarps();
         Check.equal("two tones, at the last strings", harp.chord(10, 1, 1500, 0, 0), 0);
@@ -34,6 +35,7 @@ final class ChordsTest {
         Check.equal("off(3)", harp.off(3), 299 + 319 + 339 + 1140);
     }
 
+    /** "the differences of the tones of its strings from these, each without the sign, added". */
     private static void off() {
         WedgeHarps harp = new WedgeHarps();
         harp.chord(4, 370, 410, 420, 441);
@@ -77,6 +79,7 @@ final class ChordsTest {
         Check.equal("drawn anew", harp.sounds(2), true);
     }
 
+    /** "0 if it sounds", and "nothing is changed". */
     private static void steps() {
         WedgeHarps harp = new WedgeHarps();
         harp.chord(0, 305, 315, 0, 0);
@@ -94,6 +97,7 @@ final class ChordsTest {
         Check.equal("steps back and forth", harp.steps(3), 1 + 2 + 1 + 1);
     }
 
+    /** "-1 if none do". */
     private static void stepsAtTheirReach() {
         WedgeHarps harp = new WedgeHarps();
         harp.chord(0, 345, 332, 0, 0);
@@ -121,6 +125,7 @@ final class ChordsTest {
         Check.equal("a step forth to 20", harp.steps(2), 1);
     }
 
+    /** "if just the wedges of its strings are pushed". */
     private static void stepsOfTheChordAlone() {
         WedgeHarps harp = new WedgeHarps();
         harp.chord(1, 326, 335, 0, 0);

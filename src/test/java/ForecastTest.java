@@ -67,6 +67,7 @@ final class ForecastTest {
         Check.equal("bears in damp", harp.bears(11), 12);
     }
 
+    /** "-1 if it is broken". */
     private static void bearsOfBroken() {
         WedgeHarps harp = Scenes.broken(6);
         Check.equal("a broken string", harp.bears(6), -1);
@@ -96,6 +97,7 @@ final class ForecastTest {
         return harp;
     }
 
+    /** "within 200 hours". */
     private static void firstWithin200Hours() {
         WedgeHarps harp = breakingInHour201();
         Check.equal("breaking in the hour 201", harp.first(), -1);
@@ -107,6 +109,7 @@ final class ForecastTest {
         Check.equal("broken already", harp.first(), -1);
     }
 
+    /** "-1 if none does": none that is whole. */
     private static void firstOfBroken() {
         WedgeHarps harp = new WedgeHarps();
         for (int k = 0; k < 12; k++) {
@@ -118,6 +121,7 @@ final class ForecastTest {
         Check.equal("but one", harp.first(), 8);
     }
 
+    /** "0 if it does not now"; "-1 if it sounds all the time". */
     private static void holds() {
         WedgeHarps harp = new WedgeHarps();
         harp.chord(0, 300, 320, 0, 0);
@@ -135,7 +139,10 @@ final class ForecastTest {
         Check.equal("none left", harp.holds(0), 0);
     }
 
-    /** Drift and swelling go by 2 in 12 hours, until the swelling is held; in the hour 201 the tone is 6 greater. */
+    /**
+     * "at most 200": drift and swelling go by 2 in 12 hours, until the swelling is held; in the hour 201 the tone is 6
+     * greater.
+     */
     private static void holdsAtMost200Hours() {
         WedgeHarps harp = new WedgeHarps();
         for (int hour = 0; hour < 12; hour++) {
@@ -151,6 +158,7 @@ final class ForecastTest {
         Check.equal("it does not any more", harp.sounds(0), false);
     }
 
+    /** A string of the chord that breaks ends it. */
     private static void holdsUntilItBreaks() {
         WedgeHarps harp = new WedgeHarps();
         harp.draw(6, 900);
@@ -185,6 +193,7 @@ final class ForecastTest {
         Check.equal("a broken string", harp.foresee(1, 11), 0);
     }
 
+    /** "the mean tone of all strings that are whole; 0 if none is". */
     private static void mean() {
         WedgeHarps harp = new WedgeHarps();
         Check.equal("mean of a new harp", harp.mean(), 410.0);
@@ -213,6 +222,7 @@ final class ForecastTest {
         Check.equal("digest with other weather", harp.digest() == TOLD_DIGEST, false);
     }
 
+    /** "nothing is changed". */
     private static void nothingIsChanged() {
         WedgeHarps harp = Scenes.tight();
         harp.chord(4, 640, 1220, 660, 0);
@@ -273,7 +283,7 @@ final class ForecastTest {
         }
     }
 
-    /** "of several in the same hour the one with the smallest number": 0, where all break; 10, where the last two do. */
+    /** "of several in the same hour the one with the smallest number": 0 of all; 10 of the last two. */
     private static void firstOfAll() {
         WedgeHarps harp = new WedgeHarps();
         for (int k = 0; k < 12; k++) {

@@ -74,7 +74,7 @@ final class HoursTest {
         Check.equal("a broken string breaks once", harp.string(0, 6), 1);
     }
 
-    /** 22 an hour up to 88 (drift -2 then), and 12 or 13 more from a tone of 1218. */
+    /** "With more than 100 it breaks": 22 an hour up to 88 (drift -2 then), and 12 or 13 more from a tone of 1218. */
     private static void strainOfExactly100() {
         WedgeHarps harp = Scenes.tight();
         Scenes.passIn(harp, 4, 20, 0);
@@ -103,6 +103,7 @@ final class HoursTest {
         Check.equal("at least 0", harp.string(11, 3), 0);
     }
 
+    /** "with a damp of 6 or more 1 more". */
     private static void drift() {
         WedgeHarps harp = new WedgeHarps();
         Scenes.passIn(harp, 1, 0, 5);
@@ -116,6 +117,7 @@ final class HoursTest {
         Check.equal("drift stays in dry hours", harp.string(4, 2), 2);
     }
 
+    /** "with a strain of 50 or more its drift is 1 less, otherwise". */
     private static void driftFrom50OfStrain() {
         WedgeHarps harp = Scenes.tight();
         Scenes.passIn(harp, 2, 20, 0);
@@ -131,7 +133,7 @@ final class HoursTest {
         Check.equal("drift of a string with less", other.string(0, 2), 1);
     }
 
-    /** With a wind of 2 the strain of a tone of 1000 to 1499 stays as it is. */
+    /** "held at -50 to 50": with a wind of 2 the strain of a tone of 1000 to 1499 stays as it is. */
     private static void driftIsHeld() {
         WedgeHarps harp = Scenes.tight();
         Scenes.passIn(harp, 4, 20, 0);
@@ -149,6 +151,7 @@ final class HoursTest {
         Check.equal("drift is at most 50", damp.string(0, 2), 50);
     }
 
+    /** "held at 0 to 30". */
     private static void swelling() {
         WedgeHarps harp = new WedgeHarps();
         Scenes.passIn(harp, 1, 0, 4);
@@ -166,6 +169,7 @@ final class HoursTest {
         Check.equal("swelling behind 29 dry hours", harp.count(4), 1);
     }
 
+    /** "with its tone ahead of this step", and behind the swelling of the hour before. */
     private static void toneAheadOfTheSwelling() {
         WedgeHarps harp = new WedgeHarps();
         Scenes.passIn(harp, 1, 10, 9);
@@ -255,7 +259,7 @@ final class HoursTest {
         Check.equal("strain of a tone of 1000 in a wind of 9", harp.string(5, 3), 7);
     }
 
-    /** "its strain and drift are 0 then": also in an hour that is damp enough for drift, behind drift to either side. */
+    /** "its strain and drift are 0 then": also in an hour that is damp enough for drift, and in those behind it. */
     private static void brokenInDamp() {
         WedgeHarps harp = new WedgeHarps();
         harp.draw(0, 900);
@@ -358,6 +362,7 @@ final class HoursTest {
         Check.equal("chords that sound, none", harp.count(3), 0);
     }
 
+    /** "how many strings break in them": all, and none where none is whole. */
     private static void hoursWithoutStrings() {
         WedgeHarps harp = new WedgeHarps();
         for (int k = 0; k < 12; k++) {

@@ -89,7 +89,7 @@ final class RefusalsTest {
         Twins.badArgument("too many steps, below 0", Scenes::lively, harp -> harp.push(0, -21));
     }
 
-    /** Throws IndexOutOfBoundsException if string is not 0 to 11, IllegalArgumentException if base is not 100 to 900. */
+    /** Throws IndexOutOfBoundsException if string is not 0 to 11, IllegalArgumentException for the base. */
     private static void draw() {
         for (int string : NO_STRING) {
             Twins.outOfBounds("draw(" + string + ", 300)", Scenes::lively, harp -> harp.draw(string, 300));

@@ -21,6 +21,7 @@ final class StringsTest {
         Check.end("StringsTest");
     }
 
+    /** Promise 1: "a harp without chords, in the hour 0", and what the terms say of it "at first". */
     private static void newHarp() {
         WedgeHarps harp = new WedgeHarps();
         int[] counts = {0, 12, 0, 0, 0, 0, 0, 0};
@@ -64,6 +65,7 @@ final class StringsTest {
         Check.equal("push(11, -19)", harp.push(11, -19), 530);
     }
 
+    /** "A broken string has the tone 0", but its wedge is pushed, and presses its neighbours. */
     private static void pushOfBroken() {
         WedgeHarps harp = Scenes.broken(6);
         Check.equal("push of a broken string", harp.push(6, 2), 0);
@@ -72,6 +74,7 @@ final class StringsTest {
         Check.equal("its neighbour above", harp.string(7, 5), 446);
     }
 
+    /** "with this base, without drift and strain; the wedge stays". */
     private static void draw() {
         WedgeHarps harp = new WedgeHarps();
         harp.push(2, 3);
@@ -90,6 +93,7 @@ final class StringsTest {
         Check.equal("another string's strain stays", harp.string(11, 3), 16);
     }
 
+    /** "it is whole". */
     private static void drawOfBroken() {
         WedgeHarps harp = Scenes.broken(6);
         Check.equal("whole ahead of draw", harp.string(6, 4), 0);
@@ -98,6 +102,7 @@ final class StringsTest {
         Check.equal("how often it broke", harp.string(6, 6), 1);
     }
 
+    /** "10 * wind + damp, as they were before": 0 and 0 at first. */
     private static void setWeather() {
         WedgeHarps harp = new WedgeHarps();
         Check.equal("first weather", harp.setWeather(0, 20, 9), 0);
@@ -141,6 +146,7 @@ final class StringsTest {
         Check.equal("moves changes nothing", harp.digest(), before);
     }
 
+    /** "0 if the other one is broken". */
     private static void movesOfBroken() {
         WedgeHarps harp = Scenes.broken(6);
         Check.equal("a broken string by itself", harp.moves(6, 5, 6), 0);
