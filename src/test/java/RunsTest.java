@@ -3,6 +3,13 @@ final class RunsTest {
     private static final int RUNS = 240;
     /** Each is followed by a digest, and the document promises nothing about more than 512 calls. */
     private static final int CALLS = 256;
+    private static final int HARPS_WITH_CHORDS_IN_REACH = 400;
+
+    /** Kinds of calls that ask about a chord. */
+    private static final int OFF = 9;
+    private static final int SOUNDS = 10;
+    private static final int STEPS = 11;
+    private static final int HOLDS = 12;
 
     private static long seed;
     private static WedgeHarps harp;
@@ -24,7 +31,50 @@ final class RunsTest {
                 oneCall(run + "/" + call, run % 4);
             }
         }
+        for (int run = 0; run < HARPS_WITH_CHORDS_IN_REACH; run++) {
+            seed = run;
+            chordsInReach("chords " + run, run % 4);
+        }
         Check.end("RunsTest");
+    }
+
+    /** Chords that are asked as soon as they are told: in the long runs nearly all of them are out of reach by then. */
+    private static void chordsInReach(String at, int mood) {
+        harp = new WedgeHarps();
+        plain = new PlainHarp();
+        for (int k = 0; k < 12; k++) {
+            int string = k;
+            int steps = any(0, 2) == 0 ? any(1, 3) : any(1, 20);
+            same(at + " push", () -> harp.push(string, steps), () -> plain.push(string, steps));
+            int wind = mood == 3 ? 0 : any(0, mood == 0 ? 20 : 6);
+            int damp = any(0, 9);
+            same(at + " setWeather", () -> harp.setWeather(string, wind, damp),
+                    () -> plain.setWeather(string, wind, damp));
+        }
+        int hours = any(1, 40);
+        same(at + " pass", () -> harp.pass(hours), () -> plain.pass(hours));
+        for (int chord = 0; chord < 6; chord++) {
+            int reach = chord < 3 ? 0 : chord;
+            tellChordInReach(at, any(0, 8), any(2, 4), reach);
+            for (int kind = OFF; kind <= HOLDS; kind++) {
+                askAboutChord(at + "/" + chord, kind, chord);
+            }
+        }
+    }
+
+    /** The tones that the strings would have, each pushed by this reach at most, but for 5 to either side. */
+    private static void tellChordInReach(String at, int first, int size, int reach) {
+        int[] pushes = new int[6];
+        for (int i = 1; i <= size; i++) {
+            pushes[i] = any(-reach, reach);
+        }
+        int[] tones = new int[4];
+        for (int i = 0; i < size; i++) {
+            int pushed = 10 * pushes[i + 1] + 3 * (pushes[i] + pushes[i + 2]);
+            tones[i] = Math.max(1, plain.string(first + i, 5) + pushed + any(-5, 5));
+        }
+        same(at + " chord", () -> harp.chord(first, tones[0], tones[1], tones[2], tones[3]),
+                () -> plain.chord(first, tones[0], tones[1], tones[2], tones[3]));
     }
 
     /** A number from the range, by a generator of our own, so that each run is the same each time. */
@@ -75,7 +125,7 @@ final class RunsTest {
         } else if (kind < 9) {
             int hours = mood == 0 ? mostly(1, 200) : mostly(1, 6);
             same(at + " pass(" + hours + ")", () -> harp.pass(hours), () -> plain.pass(hours));
-        } else if (kind < 13) {
+        } else if (kind <= HOLDS) {
             askChord(at, kind);
         } else {
             askHarp(at, kind);
@@ -115,15 +165,18 @@ final class RunsTest {
     }
 
     private static void askChord(String at, int kind) {
-        int chord = mostly(0, Math.max(0, plain.count(2) - 1));
+        askAboutChord(at, kind, mostly(0, Math.max(0, plain.count(2) - 1)));
+    }
+
+    private static void askAboutChord(String at, int kind, int chord) {
         switch (kind) {
-            case 9:
+            case OFF:
                 same(at + " off", () -> harp.off(chord), () -> plain.off(chord));
                 break;
-            case 10:
+            case SOUNDS:
                 same(at + " sounds", () -> harp.sounds(chord) ? 1 : 0, () -> plain.sounds(chord) ? 1 : 0);
                 break;
-            case 11:
+            case STEPS:
                 same(at + " steps", () -> harp.steps(chord), () -> plain.steps(chord));
                 break;
             default:
